@@ -1,0 +1,230 @@
+import com.sun.source.tree.CatchTree;
+import com.sun.source.tree.ClassTree;
+import com.sun.source.tree.CompilationUnitTree;
+import com.sun.source.tree.LambdaExpressionTree;
+import com.sun.source.tree.MemberReferenceTree;
+import com.sun.source.tree.MethodInvocationTree;
+import com.sun.source.tree.MethodTree;
+import com.sun.source.tree.NewClassTree;
+import com.sun.source.tree.ThrowTree;
+import com.sun.source.tree.TryTree;
+import com.sun.source.util.JavacTask;
+import com.sun.source.util.TreePathScanner;
+import com.sun.source.util.Trees;
+import java.io.File;
+import java.lang.management.ManagementFactory;
+import java.lang.reflect.Field;
+import java.lang.reflect.Method;
+import java.lang.reflect.Modifier;
+import java.util.HashMap;
+import java.util.HashSet;
+import java.util.List;
+import java.util.Map;
+import java.util.Set;
+import java.util.TreeSet;
+import javax.lang.model.element.Element;
+import javax.lang.model.element.ExecutableElement;
+import javax.tools.JavaCompiler;
+import javax.tools.StandardJavaFileManager;
+import javax.tools.ToolProvider;
+
+/** Those rules of LANGUAGE.md that a program can look at: the face, the form of methods, the depth of calls, the room. */
+public final class LanguageTest {
+    private static final String SOURCE = "src/main/java/LightHalves.java";
+    private static final String FACE = "ship shipOf change remake light lane laneOf ends anew state feed rules watch on when"
+        + " trimFor laneFor rock least safe convoys best ith ways log bars game play report forget lone liar seed lot times"
+        + " prove row alterRow judge sheet write item goAll wouldBe shelf taken act trace many keep again";
+    private static final Due due = new Due("LanguageTest");
+    private static final Map<String, Set<String>> calls = new HashMap<>();
+    private static final Set<String> outside = new TreeSet<>();
+
+    public static void main(String[] args) throws Exception {
+        face();
+        classes();
+        source();
+        depth();
+        room();
+        due.end();
+    }
+
+    private static void face() {
+        Set<String> wanted = new TreeSet<>(List.of(FACE.split(" ")));
+        Set<String> found = new TreeSet<>();
+        for (Method m : LightHalves.class.getDeclaredMethods()) {
+            if (Modifier.isPublic(m.getModifiers())) {
+                found.add(m.getName());
+                due.is("rule 1: answers an int: " + m.getName(), m.getReturnType() == int.class ? 1 : 0, 1);
+            } else {
+                due.is("rule 1: private " + m.getName(), Modifier.isPrivate(m.getModifiers()) ? 1 : 0, 1);
+                due.is("rule 1: a public one's name " + m.getName(), wanted.contains(m.getName()) ? 1 : 0, 0);
+            }
+        }
+        due.is("rule 1: the face " + found, found.equals(wanted) ? 1 : 0, 1);
+        for (Field f : LightHalves.class.getDeclaredFields()) {
+            boolean constant = Set.of("BAD", "FULL", "NONE", "STATE").contains(f.getName());
+            boolean right = constant ? Modifier.isPublic(f.getModifiers()) : Modifier.isPrivate(f.getModifiers());
+            due.is("rule 1: field " + f.getName(), right ? 1 : 0, 1);
+        }
+    }
+
+    private static void classes() {
+        Class<?>[] inside = LightHalves.class.getDeclaredClasses();
+        due.is("rule 11: at most twelve classes", inside.length + 1 <= 12 ? 1 : 0, 1);
+        for (Class<?> c : inside) {
+            due.is("rule 2: static " + c, Modifier.isStatic(c.getModifiers()) ? 1 : 0, 1);
+            int fields = 0;
+            for (Field f : c.getDeclaredFields()) {
+                if (Modifier.isStatic(f.getModifiers())) {
+                    due.is("rule 5: final " + f, Modifier.isFinal(f.getModifiers()) ? 1 : 0, 1);
+                } else {
+                    fields++;
+                }
+            }
+            due.is("rule 11: fields of " + c, fields <= 20 ? 1 : 0, 1);
+        }
+    }
+
+    private static void source() throws Exception {
+        JavaCompiler javac = ToolProvider.getSystemJavaCompiler();
+        try (StandardJavaFileManager files = javac.getStandardFileManager(null, null, null)) {
+            JavacTask task = (JavacTask) javac.getTask(null, files, null, List.of("-proc:none"), null,
+                files.getJavaFileObjects(new File(SOURCE)));
+            CompilationUnitTree unit = task.parse().iterator().next();
+            task.analyze();
+            new Looker(Trees.instance(task), unit).scan(unit, null);
+        }
+        Set<String> allowed = Set.of("Arrays.fill", "System.arraycopy", "Math.max", "Math.min", "Math.abs",
+            "Integer.bitCount", "Integer.numberOfTrailingZeros", "String.length", "String.charAt", "Object.<init>");
+        for (String s : outside) {
+            due.is("rule 4: " + s, allowed.contains(s) ? 1 : 0, 1);
+        }
+    }
+
+    private static final class Looker extends TreePathScanner<Void, Void> {
+        private final Trees trees;
+        private final CompilationUnitTree unit;
+        private String method = "";
+
+        Looker(Trees trees, CompilationUnitTree unit) {
+            this.trees = trees;
+            this.unit = unit;
+        }
+
+        private static String nameOf(Element e) {
+            StringBuilder b = new StringBuilder(e.getEnclosingElement().getSimpleName()).append('.').append(e.getSimpleName());
+            return b.toString();
+        }
+
+        private void ruledOut(String what) {
+            due.is(what + " in " + method, 1, 0);
+        }
+
+        @Override public Void visitMethod(MethodTree tree, Void v) {
+            method = nameOf(trees.getElement(getCurrentPath()));
+            calls.putIfAbsent(method, new HashSet<>());
+            due.is("rule 11: parameters of " + method, tree.getParameters().size() <= 7 ? 1 : 0, 1);
+            long from = trees.getSourcePositions().getStartPosition(unit, tree);
+            long to = trees.getSourcePositions().getEndPosition(unit, tree);
+            if (to > from) {
+                long lines = unit.getLineMap().getLineNumber(to) - unit.getLineMap().getLineNumber(from) + 1;
+                due.is("rule 11: " + lines + " lines of " + method, lines <= 60 ? 1 : 0, 1);
+            }
+            super.visitMethod(tree, v);
+            method = "";
+            return null;
+        }
+
+        @Override public Void visitMethodInvocation(MethodInvocationTree tree, Void v) {
+            Element called = trees.getElement(getCurrentPath());
+            String name = nameOf(called);
+            boolean own = called instanceof ExecutableElement && called.getEnclosingElement().toString().startsWith("LightHalves");
+            if (own) {
+                calls.get(method).add(name);
+            } else {
+                outside.add(name);
+            }
+            return super.visitMethodInvocation(tree, v);
+        }
+
+        @Override public Void visitNewClass(NewClassTree tree, Void v) {
+            due.is("rule 12: made outside a constructor, in " + method, method.isEmpty() || method.endsWith("<init>") ? 1 : 0, 1);
+            return super.visitNewClass(tree, v);
+        }
+
+        @Override public Void visitClass(ClassTree tree, Void v) {
+            due.is("rule 2: a class without a name", tree.getSimpleName().length() > 0 ? 1 : 0, 1);
+            return super.visitClass(tree, v);
+        }
+
+        @Override public Void visitThrow(ThrowTree tree, Void v) {
+            ruledOut("rule 6: throw");
+            return super.visitThrow(tree, v);
+        }
+
+        @Override public Void visitTry(TryTree tree, Void v) {
+            ruledOut("rule 6: try");
+            return super.visitTry(tree, v);
+        }
+
+        @Override public Void visitCatch(CatchTree tree, Void v) {
+            ruledOut("rule 6: catch");
+            return super.visitCatch(tree, v);
+        }
+
+        @Override public Void visitLambdaExpression(LambdaExpressionTree tree, Void v) {
+            ruledOut("rule 2: lambda");
+            return super.visitLambdaExpression(tree, v);
+        }
+
+        @Override public Void visitMemberReference(MemberReferenceTree tree, Void v) {
+            ruledOut("rule 2: method reference");
+            return super.visitMemberReference(tree, v);
+        }
+    }
+
+    private static void depth() {
+        for (String method : calls.keySet()) {
+            int depth = depthOf(method, new HashSet<>());
+            due.is("rule 11: " + depth + " calls deep from " + method, depth <= 8 ? 1 : 0, 1);
+        }
+    }
+
+    /** How many methods stand open at once, the first one too; one that calls itself counts once. */
+    private static int depthOf(String method, Set<String> open) {
+        int deepest = 0;
+        open.add(method);
+        for (String next : calls.get(method)) {
+            if (!open.contains(next)) {
+                deepest = Math.max(deepest, depthOf(next, open));
+            }
+        }
+        open.remove(method);
+        return deepest + 1;
+    }
+
+    /** The dearest calls make no objects at all; the bound leaves some for the measuring. */
+    private static void room() {
+        com.sun.management.ThreadMXBean bean = (com.sun.management.ThreadMXBean) ManagementFactory.getThreadMXBean();
+        long id = Thread.currentThread().getId();
+        LightHalves x = Due.twoBrigs();
+        x.ship(3, 30, 5, 2);
+        x.ship(5, 30, 5, 3);
+        bean.getThreadAllocatedBytes(id);
+        long before = bean.getThreadAllocatedBytes(id);
+        for (int i = 0; i < 40; i++) {
+            x.best(4);
+            x.game(4);
+            x.log(4, 15);
+            x.lone(0);
+            x.liar();
+            x.times(40, 9);
+            x.laneFor(0);
+            x.keep();
+            x.again();
+            x.feed(0x3b6c696168206769L, 8);
+            x.rules();
+        }
+        long made = bean.getThreadAllocatedBytes(id) - before;
+        due.is("rule 12: bytes made by 440 calls: " + made, made < 100000 ? 1 : 0, 1);
+    }
+}

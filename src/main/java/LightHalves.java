@@ -13,7 +13,8 @@ public final class LightHalves {
     private static final int SHEETS = 4, SHELVES = 4, ITEMS = 40, SORTS = 5, BYTES = 0, MISSING = -1;
 
     private static final int TENDER = 1, COASTER = 2, COLLIER = 3, BRIG = 4, CAPTAIN = 5;
-    private static final int ENTER = 0, STAND = 1, HAIL = 2;
+    /** WILL; 1 is to stand, by which nothing is done. */
+    private static final int ENTER = 0, HAIL = 2;
 
     /** For each KIND the set of itself and the KINDS above it. */
     private static final int[] SELF_AND_ABOVE = {1, 3, 5, 13, 17, 49};
@@ -1192,7 +1193,6 @@ public final class LightHalves {
                 return false;
             }
             into.addStep(sign, left, right);
-            join(into, Rules.NOT);
             return expect(BEHIND_ONE);
         }
 
@@ -1216,7 +1216,6 @@ public final class LightHalves {
             if (waitingCount > 0) {
                 waitingCount--;
             }
-            join(into, Rules.NOT);
             return true;
         }
 

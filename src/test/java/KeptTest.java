@@ -16,7 +16,7 @@ public final class KeptTest {
         x.lane(2, 1, 4);
         x.ends(9);
         x.seed(77);
-        x.report(0, 0, 9, 9);
+        x.report(1, 0, 7, 7);
         x.watch();
         x.keep();
         return x;
@@ -35,8 +35,8 @@ public final class KeptTest {
         x.lane(2, 1, 7);
         x.seed(5);
         x.forget();
-        x.report(0, 0, 18, 18);
-        x.report(0, 0, 18, 18);
+        x.report(0, 1, 0, 16);
+        x.report(0, 1, 0, 16);
         x.watch();
         x.ends(14);
     }
@@ -56,7 +56,7 @@ public final class KeptTest {
         due.is("52 WILL", x.shipOf(0, 9), 1);
         due.is("52 SHIPS", x.many(0), 2);
         due.is("52 REPORTS", x.many(3), 1);
-        due.is("52 REPORTS", x.lone(3), 9);
+        due.is("52 REPORTS", x.lone(0), 20);
         due.is("52 LIGHT", x.light(5, 2), 9);
         due.is("52 CURRENT", x.laneOf(2, 0), 3);
         due.is("52 BUOY", x.laneOf(2, 1), 4);

@@ -179,6 +179,11 @@ public final class RulesTest {
         due.is("13 many", x.many(1), 3);
         due.is("13 in place of all", Due.rules(x, "brig stand;"), 1);
         due.is("13 in place of all", x.shipOf(0, 9), 1);
+        String six = "ship if 1=2 hail;ship if 1=2 hail;ship if 1=2 hail;ship if 1=2 hail;ship if 1=2 hail;ship if 1=2 hail;";
+        due.is("13 eight", Due.rules(x, six + "ship if 1=2 hail; ship if 1=1 and off=7 stand;"), 8);
+        due.is("13 the eighth", x.shipOf(0, 9), 1);
+        due.is("13 eight", Due.rules(x, six + "ship if 1=1 and off=7 hail; ship stand;"), 8);
+        due.is("13 the seventh", x.shipOf(0, 9), 2);
         due.is("13 none", x.rules(), 0);
         due.is("13 none", x.shipOf(0, 9), 0);
     }

@@ -110,6 +110,10 @@ public final class StrangersTest {
         x.report(0, 0, 18, 18);
         due.is("33 the least by which it would fit", x.liar(), 1);
         due.is("33 changes nothing", x.many(3), 3);
+        x.forget();
+        x.report(1, 0, 6, 6);
+        due.is("32 a ship of no KIND 1 to 5 would", x.lone(0), 0);
+        due.is("33 a ship of no KIND 1 to 5 would", x.liar(), 0);
     }
 
     private static void lot() {

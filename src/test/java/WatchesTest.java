@@ -131,6 +131,9 @@ public final class WatchesTest {
         due.is("18 changes nothing", x.shipOf(0, 3), 5);
         x.lane(2, 1, 4);
         due.is("18 laneFor", x.laneFor(0), 4);
+        x.lane(4, 1, 4);
+        x.lane(5, 1, 5);
+        due.is("18 the last LANE", x.laneFor(0), 5);
         due.is("18 laneFor", x.laneFor(1), BAD);
         due.is("18 laneFor", x.laneFor(-1), BAD);
     }

@@ -615,8 +615,14 @@ public final class LightHalves {
         return was;
     }
 
+    /** Of SHIPS or REPORTS, six at most. */
     private static int leastOfSet(int set) {
-        return set == 0 ? NONE : Integer.numberOfTrailingZeros(set);
+        for (int k = 0; k < 6; k++) {
+            if ((set >> k & 1) == 1) {
+                return k;
+            }
+        }
+        return NONE;
     }
 
     private boolean hasCell(int k, int what) {

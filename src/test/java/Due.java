@@ -2,6 +2,7 @@
 final class Due {
     private final String test;
     private int wrong = 0;
+    private int sentences = 0;
 
     Due(String test) {
         this.test = test;
@@ -9,8 +10,25 @@ final class Due {
 
     void is(String call, int got, int want) {
         if (got != want) {
-            wrong++;
-            System.out.println(test + ": " + call + " answered " + got + ", due is " + want);
+            isWrong(call + " answered " + got + ", due is " + want);
+        }
+    }
+
+    void isWrong(String line) {
+        wrong++;
+        System.out.println(test + ": " + line);
+    }
+
+    /** Holds the class to a sentence of the document, told in the document's own words. */
+    void says(String words, Runnable holds) {
+        sentences++;
+        if (!Document.says(words)) {
+            isWrong("the document doesn't say: " + words);
+        }
+        int before = wrong;
+        holds.run();
+        if (wrong > before) {
+            System.out.println(test + ": so this doesn't hold: " + words);
         }
     }
 
@@ -25,7 +43,9 @@ final class Due {
     }
 
     void end() {
-        System.out.println(test + ": " + (wrong == 0 ? "all answers are as due" : wrong + " answers are not as due"));
+        String held = sentences == 0 ? "" : sentences + " sentences, ";
+        System.out.println(test + ": " + held
+            + (wrong == 0 ? "all answers are as due" : wrong + " answers are not as due"));
         if (wrong != 0) {
             System.exit(1);
         }
@@ -52,6 +72,18 @@ final class Due {
         x.sheet(3, 0, acts.length);
         for (int i = 0; i < acts.length; i++) {
             x.write(3, i, acts[i]);
+        }
+    }
+
+    /** A WATCHE with this ACT: what it was WORTH. */
+    static int pass(LightHalves x, int act) {
+        acts(x, act);
+        return x.goAll(3, 0, 1);
+    }
+
+    static void watches(LightHalves x, int n) {
+        for (int i = 0; i < n; i++) {
+            x.watch();
         }
     }
 

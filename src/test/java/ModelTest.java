@@ -6,15 +6,18 @@ import java.util.Comparator;
 import java.util.List;
 import java.util.Random;
 
-/** Long runs of calls, by fixed seeds, answered by LightHalves and by the Model alike. */
+/** Long runs of calls by fixed seeds, and each call with the farthest numbers, answered by LightHalves and the Model alike. */
 public final class ModelTest {
-    private static final int RUNS = 150, CALLS = 500;
+    /** More calls than 512 are not promised; the longest piece of a run, a TEXT, takes fewer than 40. */
+    private static final int RUNS = 800, CALLS = 512, PIECE = 40;
+    private static final int[] FARTHEST = {Integer.MIN_VALUE, -16, -1, 0, 1, 5, 6, 16, 100, Integer.MAX_VALUE};
     private static final String[] DEAR = {"best", "ith", "ways", "log", "bars", "game", "play", "prove", "lone", "liar"};
 
     private final Random random;
     private final LightHalves real = new LightHalves();
     private final Model model = new Model();
     private final List<String> told = new ArrayList<>();
+    private int called = 0;
 
     private ModelTest(long seed) {
         random = new Random(seed);
@@ -28,14 +31,47 @@ public final class ModelTest {
         int runs = args.length > 0 ? Integer.parseInt(args[0]) : RUNS;
         for (int seed = 0; seed < runs; seed++) {
             ModelTest test = new ModelTest(seed);
-            if (!test.run(calls)) {
-                System.out.println("seed " + seed + ", the last calls:");
-                int from = Math.max(0, test.told.size() - 60);
-                for (String line : test.told.subList(from, test.told.size())) System.out.println("  " + line);
-                System.exit(1);
-            }
+            if (!test.run(calls)) test.fail("seed " + seed);
         }
+        for (Method call : calls) farthest(call);
         System.out.println("ModelTest: " + runs + " runs are as the model's");
+    }
+
+    private void fail(String run) {
+        System.out.println(run + ", the last calls:");
+        int from = Math.max(0, told.size() - 60);
+        for (String line : told.subList(from, told.size())) System.out.println("  " + line);
+        System.exit(1);
+    }
+
+    /** A call with all there is of far and near numbers, each time on a rock of three SHIPS. */
+    private static void farthest(Method call) throws Exception {
+        int places = call.getParameterCount();
+        int all = 1;
+        for (int i = 0; i < places; i++) all *= FARTHEST.length;
+        ModelTest test = null;
+        for (int which = 0; which < all; which++) {
+            if (test == null || test.called > CALLS - PIECE) {
+                test = new ModelTest(which);
+                if (!test.furnish()) test.fail("the rock ahead of " + call.getName());
+            }
+            Object[] args = new Object[places];
+            for (int i = 0, rest = which; i < places; i++, rest /= FARTHEST.length) {
+                int v = FARTHEST[rest % FARTHEST.length];
+                args[i] = call.getParameterTypes()[i] == long.class ? (Object) (long) v : (Object) v;
+            }
+            if (!test.same(call, args) || !test.same("state", 2)) test.fail("the farthest of " + call.getName());
+        }
+    }
+
+    private boolean furnish() throws Exception {
+        for (int k = 0; k < 3; k++) {
+            if (!same("ship", 5 - k, 20, 5, k)) return false;
+        }
+        for (int i = 0; i < 4; i++) {
+            if (!same("sheet", i, i, 6) || !same("shelf", i, i % 2, i / 2)) return false;
+        }
+        return same("act", 0, 3, 7) && same("prove", 4) && same("report", 1, 0, 1, 50) && same("keep");
     }
 
     private boolean run(Method[] calls) throws Exception {
@@ -48,7 +84,7 @@ public final class ModelTest {
         for (int i = 0; i < 8; i++) {
             if (!same("light", random.nextInt(16), random.nextInt(16))) return false;
         }
-        for (int i = told.size(); i < CALLS; i++) {
+        while (called <= CALLS - PIECE) {
             int choice = random.nextInt(40);
             if (choice == 0) {
                 if (!tell(new Texts(random).text())) return false;
@@ -116,6 +152,7 @@ public final class ModelTest {
         Method due = Model.class.getDeclaredMethod(m.getName(), m.getParameterTypes());
         Object got = m.invoke(real, args);
         Object want = due.invoke(model, args);
+        called++;
         told.add(m.getName() + Arrays.toString(args) + " answered " + got + ", due is " + want);
         return got.equals(want);
     }

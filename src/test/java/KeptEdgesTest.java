@@ -10,6 +10,7 @@ public final class KeptEdgesTest {
         due.says("THE TAPE, ROWS, SHEETS, SHELVES, THE TRACE", KeptEdgesTest::notKept);
         due.says("It becomes what was kept latest", KeptEdgesTest::latest);
         due.says("(which stays): how many SHIPS.", KeptEdgesTest::stays);
+        due.says("THE RULES whose KIND is hers or above it, and whose condition holds", KeptEdgesTest::conditions);
         due.says("NONE: nothing is kept.", KeptEdgesTest::none);
         fullAndEmpty();
         due.end();
@@ -139,6 +140,24 @@ public final class KeptEdgesTest {
             due.is("52 REPORTS", x.many(3), 0);
             due.is("52 LIGHT", x.state(5), 6);
             due.is("52 and again at once", x.again(), 2);
+        }
+    }
+
+    private static void conditions() {
+        LightHalves x = Due.one(BRIG, 20, 5, 0);
+        Due.rules(x, "ship if off = 20 and not trim = 9 stand; ship if off = 99 hail;");
+        x.keep();
+        Due.rules(x, "ship if off > 0 hail; ship if 1 = 2 enter; brig if trim = 5 enter;");
+        due.is("3 another RULE tells", x.shipOf(0, 9), 2);
+        for (int i = 0; i < 2; i++) {
+            due.is("52 again", x.again(), 1);
+            due.is("50 as many RULES", x.many(1), 2);
+            due.is("52 the first", x.shipOf(0, 9), 1);
+            x.change(0, 1, 99);
+            due.is("52 the second", x.shipOf(0, 9), 2);
+            x.change(0, 1, 5);
+            due.is("52 neither", x.shipOf(0, 9), 0);
+            x.rules();
         }
     }
 

@@ -65,6 +65,14 @@ public final class PlansEdgesTest {
         x.change(0, 1, 20);
         due.is("24 SHIP 0", x.ith(1, 0), 1);
         due.is("29 SHIP 0", x.play(1), 1);
+        due.is("37 SHIP 0", x.prove(1), 1);
+        x.change(0, 1, 99);
+        x.change(5, 1, 99);
+        due.is("24 none again", x.ith(1, 0), 0);
+        due.is("29 none again", x.play(1), 0);
+        due.is("25 all as good as the other", x.ways(1), 7);
+        x.prove(1);
+        due.is("38 none again", x.row(0, 0), 0);
     }
 
     private static void worthTogether() {

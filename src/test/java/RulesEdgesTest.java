@@ -8,6 +8,9 @@ public final class RulesEdgesTest {
     public static void main(String[] args) {
         due.says("THE TAPE takes bytes, 200 at most", RulesEdgesTest::twoHundredBytes);
         due.says("rules() uses it up", RulesEdgesTest::usedUp);
+        due.says("such a call changes nothing (but that THE TAPE is used up by rules())", RulesEdgesTest::noneOfTheLast);
+        due.says("THE TAPE is used up", RulesEdgesTest::nothingStaysOpen);
+        due.says("(in place of all)", RulesEdgesTest::oneBehindTheOther);
         due.says("n bytes (1 to 8) come to THE TAPE, the lowest of eight first: how many it has.", RulesEdgesTest::oneToEight);
         due.says("FULL: more than 200.", RulesEdgesTest::full);
         due.says("THE TAPE tells THE RULES (in place of all): how many; -100 less its FAULT.", RulesEdgesTest::inPlaceOfAll);
@@ -72,6 +75,53 @@ public final class RulesEdgesTest {
         due.is("13 the end of 200", y.rules(), -300);
         Due.feed(y, " ".repeat(199) + "x");
         due.is("13 byte 199 from 0", y.rules(), -299);
+        tells(" ".repeat(197) + "shi", -297);
+        tells(" ".repeat(196) + "ship", -300);
+        tells(" ".repeat(188) + "ship if off=", -300);
+        tells(" ".repeat(185) + "ship if off=123", -300);
+        tells(" ".repeat(183) + "ship if off=12345", -295);
+        tells(" ".repeat(190) + "ship hail;", 1);
+    }
+
+    /** Bytes of a TEXT ahead stand no longer behind the end of the next. */
+    private static void noneOfTheLast() {
+        String[] ahead = {"ship if off=1234567890 hail;", "ship hailaboutyou;", "ship if off=12)))))))))))"};
+        for (String text : ahead) {
+            LightHalves x = new LightHalves();
+            Due.rules(x, text);
+            due.is("13 a NUMBER ends with THE TAPE", Due.rules(x, "ship if off=12"), -114);
+            Due.rules(x, text);
+            due.is("13 a NUMBER of four digits", Due.rules(x, "ship if off=1234"), -116);
+            Due.rules(x, text);
+            due.is("13 a NAME ends with THE TAPE", Due.rules(x, "ship hail"), -109);
+            Due.rules(x, text);
+            due.is("13 nothing", Due.rules(x, ""), 0);
+        }
+    }
+
+    /** What stood open as a TEXT was in fault counts no more. */
+    private static void nothingStaysOpen() {
+        String[] ahead = {"ship if not", "ship if not not not (", "ship if 1=2 and", "ship if 1=1 or", "ship if (((1=1",
+            "ship if 1=2 and (1=2 or not", "ship if ((((", "ship if off <", "ship hail;".repeat(9)};
+        for (String text : ahead) {
+            LightHalves x = Due.one(4, 7, 3, 0);
+            due.is("13 in fault: " + text, Due.rules(x, text) < 0 ? 1 : 0, 1);
+            due.is("13 behind " + text, Due.rules(x, "ship if 1=1 hail;"), 1);
+            due.is("13 as it tells behind " + text, x.shipOf(0, 9), HAIL);
+            due.is("13 in fault: " + text, Due.rules(x, text) < 0 ? 1 : 0, 1);
+            due.is("13 behind " + text, Due.rules(x, "ship if (((1=2))) hail;"), 1);
+            due.is("13 as it tells behind " + text, x.shipOf(0, 9), ENTER);
+        }
+    }
+
+    private static void oneBehindTheOther() {
+        LightHalves x = Due.one(4, 7, 3, 0);
+        for (int i = 0; i < 14; i++) {
+            String so = i % 2 == 0 ? "1=1" : "2=1";
+            String text = "ship if 1=2" + " or 1=2".repeat(24) + " or " + so + " hail;";
+            due.is("13 TEXT " + i, Due.rules(x, text), 1);
+            due.is("13 as TEXT " + i + " tells", x.shipOf(0, 9), i % 2 == 0 ? HAIL : ENTER);
+        }
     }
 
     private static void usedUp() {
@@ -294,6 +344,24 @@ public final class RulesEdgesTest {
         fault("ship ", "ha");
         fault("ship ", "haiL;");
         fault("ship hail", "L;");
+        for (String letter : new String[] {"a", "z"}) {
+            fault("", letter + "ship hail;");
+            fault("ship ", "hail" + letter + ";");
+            fault("ship ", "ha" + letter + "il;");
+        }
+        for (String other : new String[] {"`", "{", "A", "Z", "@", "["}) {
+            fault("ship hail", other + ";");
+            fault("", other + "ship hail;");
+        }
+        for (String digit : new String[] {"0", "9"}) {
+            tells("ship if off=" + digit + " hail;", 1);
+            tells("ship if off=111" + digit + " hail;", 1);
+            fault("ship if off=", "1111" + digit + " hail;");
+        }
+        for (String other : new String[] {"/", ":"}) {
+            fault("ship if off=1", other + " hail;");
+            fault("ship if off=", other + "1 hail;");
+        }
     }
 
     private static void blanks() {

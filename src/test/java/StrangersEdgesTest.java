@@ -280,6 +280,9 @@ public final class StrangersEdgesTest {
         x.report(0, OFF, 99, 99);
         due.is("33 the only one", x.liar(), 0);
         x.forget();
+        x.report(0, OFF, 0, 0);
+        due.is("33 none is ON THE ROCK at first", x.liar(), 0);
+        x.forget();
         x.report(0, OFF, 0, 99);
         x.report(0, OFF, 9, 18);
         x.report(0, OFF, 27, 36);
@@ -384,6 +387,11 @@ public final class StrangersEdgesTest {
         due.is("36 40 times", x.times(40, 0), 40);
         due.is("36 0 times", x.times(0, 0), BAD);
         due.is("36 41 times", x.times(41, 0), BAD);
+        x.change(0, 4, 1);
+        x.ends(16);
+        due.is("36 all 16 WATCHES", x.times(40, 16), 40);
+        due.is("36 no more", x.times(40, 17), 0);
+        x.change(0, 4, 0);
         x.ends(1);
         x.watch();
         due.is("36 OVER: WORTH 0 each time", x.times(40, 0), 40);

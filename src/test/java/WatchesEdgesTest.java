@@ -46,6 +46,7 @@ public final class WatchesEdgesTest {
         due.says("(WILL doesn't count)", WatchesEdgesTest::leastWithoutWill);
         due.says("LEAST of a SHIP. BAD; NONE: with none.", WatchesEdgesTest::leastWithNone);
         due.says("SAFE by n: those that are HOME, or OFF by 1 or more, behind n WATCHES of THE REST", WatchesEdgesTest::safe);
+        due.says("SAFE by n (0 to 16), as a set. BAD.", WatchesEdgesTest::safeAll);
         due.says("(fewer, if it is OVER). CLOSE", WatchesEdgesTest::safeTillOver);
     }
 
@@ -192,6 +193,12 @@ public final class WatchesEdgesTest {
         due.is("11 is SHIP 0", x.state(4), 9);
         due.is("14 none MAY", x.watch(), 1);
         due.is("11 none more", x.state(4), 9);
+        LightHalves y = Due.one(BRIG, 20, 5, 0);
+        Due.rules(y, "ship hail;");
+        due.is("14 none MAY, so none is told", y.watch(), 0);
+        due.is("3 nor hailed", y.shipOf(0, 1), 15);
+        due.is("15 nor hailed", y.on(16), 0);
+        due.is("19 nor hailed", y.rock(0), 4);
     }
 
     private static void lastWatch() {
@@ -233,6 +240,12 @@ public final class WatchesEdgesTest {
         due.is("16 in the last WATCH", x.when(0), 11);
         x.change(0, 1, 79);
         due.is("16 one too far OFF", x.when(0), NONE);
+        x.ends(16);
+        x.change(0, 1, 98);
+        due.is("16 in WATCH 15", x.when(0), 15);
+        x.change(0, 1, 99);
+        due.is("16 one too far OFF", x.when(0), NONE);
+        x.ends(12);
         x.change(0, 1, 23);
         due.is("16 in this one", x.when(0), 0);
         x.change(0, 1, 0);
@@ -400,6 +413,21 @@ public final class WatchesEdgesTest {
         Due.rules(x, "");
         due.is("21 HOME by THE REST, one in time", x.safe(1), 2 + 4 + 8 + 16);
         due.is("21 and another", x.safe(2), 2 + 4 + 8 + 16);
+    }
+
+    private static void safeAll() {
+        LightHalves x = new LightHalves();
+        for (int k = 0; k < 6; k++) {
+            due.is("21 so many", x.safe(1), (1 << k) - 1);
+            x.ship(BRIG, 99, 5, k);
+        }
+        due.is("21 all", x.safe(0), 63);
+        due.is("21 all", x.safe(16), 63);
+        for (int k = 0; k < 6; k++) {
+            x.change(k, 1, 0);
+        }
+        due.is("21 none", x.safe(0), 0);
+        due.is("21 none", x.safe(16), 0);
     }
 
     private static void safeTillOver() {

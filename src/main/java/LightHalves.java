@@ -809,7 +809,6 @@ public final class LightHalves {
             trims[k] = trim;
             lanes[k] = lane;
             now.off[k] = off;
-            now.bring(k, 0);
             count++;
             return k;
         }

@@ -53,7 +53,8 @@ public final class HostEdgesTest {
         due.says("(-15 if that is 0; that is all that act() answers then)", HostEdgesTest::partedByZero);
         due.says("An ACT (0 to 3) of the thing on a SHELF, with x. 0, and no TRACE then: no such SHELF, act, nothing, a row.",
             HostEdgesTest::noTrace);
-        due.says("numbers of the bodies that ran in the latest act(), as they began (left first)", HostEdgesTest::latestAct);
+        due.says("THE TRACE: numbers of the bodies that ran in the latest act(), as they began (left first)",
+            HostEdgesTest::latestAct);
         due.says("the first 30 are kept", HostEdgesTest::longestTrace);
         due.says("THE TRACE's i-th body. NONE.", HostEdgesTest::traceOutside);
     }

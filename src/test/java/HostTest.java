@@ -1,20 +1,32 @@
 /** Promises 41 to 50: sheets, shelves, things with acts. */
 public final class HostTest {
     private static final int BAD = LightHalves.BAD, STATE = LightHalves.STATE;
+    private static final int TENDER = 1, COASTER = 2, COLLIER = 3, BRIG = 4, CAPTAIN = 5;
     private static final Due due = new Due("HostTest");
 
     public static void main(String[] args) {
-        sheet();
-        write();
-        item();
-        goAll();
-        wouldBe();
-        shelf();
-        taken();
-        goneFromShelf();
-        act();
-        partedByZero();
-        many();
+        due.says("A SHEET becomes a row of n of a sort, all 0, or missing (sort -1; n counts nothing then): 1. BAD: no"
+            + " such SHEET, sort, n above 40; -14.", HostTest::sheet);
+        due.says("Item i becomes v, narrowed to its sort (booleans: whether it is not 0): 1. BAD: no such SHEET; -11;"
+            + " -12.", HostTest::write);
+        due.says("Item i, taken for a sort (0 to 4; of longs the lowest 32 bits; of booleans 1, 0). BAD: no such SHEET,"
+            + " sort; -13; -11; -12.", HostTest::item);
+        due.says("n (0 to 20) items of a SHEET taken for bytes, from item i on, are ACTS, each followed by a WATCHE"
+            + " (what is none, or when it is OVER, is left out): what these WATCHES were WORTH together. BAD: no"
+            + " such SHEET, n; -13; -11; -12: what stood ahead was done.", HostTest::goAll);
+        due.says("n (0 to 20) items likewise: what they would be WORTH. BAD: no such SHEET, n; -13; -11; then, by"
+            + " items, -12; STATE: one is no ACT, or it would be OVER ahead of it.", HostTest::wouldBe);
+        due.says("A SHELF holds SHIP n (what 0), the row of SHEET n (1; nothing, if missing), nothing (2): 1. BAD: no"
+            + " such SHELF, what, thing.", HostTest::shelf);
+        due.says("What a SHELF holds taken for a thing of KIND as (0 to 5, or one under it): its number; for a row of"
+            + " sort as - 10 (as 10 to 14): how many items. BAD: no such SHELF, as; -13; -11.", HostTest::taken);
+        due.says("(by its number; nothing, if there is no such one at the time)", HostTest::goneFromShelf);
+        bodies();
+        due.says("An ACT (0 to 3) of the thing on a SHELF, with x. 0, and no TRACE then: no such SHELF, act, nothing, a"
+            + " row.", HostTest::act);
+        due.says("(-15 if that is 0; that is all that act() answers then)", HostTest::partedByZero);
+        due.says("How many: what = 0 SHIPS, 1 RULES, 2 those HOME, 3 REPORTS, 4 ROWS, 5 bytes of THE TAPE, 6 bodies of"
+            + " THE TRACE (those kept, 30 at most). BAD: another what.", HostTest::many);
         due.end();
     }
 
@@ -214,6 +226,40 @@ public final class HostTest {
         due.trace(x, "48 no such one at the time");
         x.ship(5, 20, 5, 0);
         due.is("46 there is one again", x.taken(0, 5), 1);
+    }
+
+    private static void bodies() {
+        due.says("0 sights, 1 tacks, 2 sounds, 3 lands", HostTest::fourActs);
+        body("BODIES, each with its number: ship: 10 sights: x * 9 - n.", BRIG, 1, 0, 61, 10);
+        body("11 tacks: sights(x) - 3 * a.", BRIG, 1, 1, 58, 11, 10);
+        body("12 sounds: what x leaves by (n + a - 5)", COASTER, 1, 2, 1, 12);
+        body("13 lands: tacks(x) + sounds(x).", TENDER, 1, 3, 40 - 3 + 1, 13, 11, 20, 10, 12);
+        body("tender: 20 sights: super.sights(x) ^ 21.", TENDER, 1, 0, 40, 20, 10);
+        body("coaster: 30 tacks: super.tacks(x) * 2.", COASTER, 1, 1, 116, 30, 11, 10);
+        body("brig: 40 sounds: super.sounds(x) + 7.", BRIG, 1, 2, 8, 40, 12);
+        body("collier: 50 sights: super.sights(x + 13).", COLLIER, 1, 0, 178, 50, 10);
+        body("51 lands: super.lands(x) - tacks(a).", COLLIER, 1, 3, 350 + 1 - 242, 51, 13, 30, 11, 50, 10, 12, 30, 11, 50, 10);
+        body("captain: 60 tacks: 0 - super.tacks(x).", CAPTAIN, 1, 1, -58, 60, 11, 10);
+        body("61 sounds: super.sounds(x) ^ sights(n).", CAPTAIN, 1, 2, 8 ^ 16, 61, 40, 12, 10);
+    }
+
+    private static void fourActs() {
+        LightHalves x = Due.one(BRIG, 20, 5, 0);
+        x.shelf(0, 0, 0);
+        acts(x, 0, 3, 27, 10);
+        acts(x, 1, 3, 27, 11, 10);
+        acts(x, 2, 3, 10, 40, 12);
+        acts(x, 3, 3, 37, 13, 11, 10, 40, 12);
+    }
+
+    /** An ACT, with 7, of a SHIP of this KIND, the number 2, in LANE a. */
+    private static void body(String words, int kind, int a, int act, int want, int... trace) {
+        LightHalves x = new LightHalves();
+        for (int k = 0; k <= 2; k++) {
+            x.ship(kind, 20, 5, a);
+        }
+        x.shelf(0, 0, 2);
+        due.says(words, () -> acts(x, act, 7, want, trace));
     }
 
     private static void acts(LightHalves x, int act, int with, int want, int... trace) {

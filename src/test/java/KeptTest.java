@@ -3,8 +3,9 @@ public final class KeptTest {
     private static final Due due = new Due("KeptTest");
 
     public static void main(String[] args) {
-        again();
-        notKept();
+        due.says("It becomes what was kept latest (which stays): how many SHIPS. NONE: nothing is kept.",
+            KeptTest::again);
+        due.says("All but THE TAPE, ROWS, SHEETS, SHELVES, THE TRACE is kept: 1.", KeptTest::notKept);
         due.end();
     }
 

@@ -4,15 +4,15 @@ public final class PlansTest {
     private static final Due due = new Due("PlansTest");
 
     public static void main(String[] args) {
-        best();
+        due.says("BEST: those with most WORTH", PlansTest::best);
         ties();
         waiting();
         none();
-        log();
-        bars();
-        game();
-        hostile();
-        over();
+        due.says("LOG by n (0 to 4), a set of SHIPS (of such as there are). BAD; NONE.", PlansTest::log);
+        due.says("BAR likewise. BAD; NONE: each is so behind some.", PlansTest::bars);
+        due.says("VALUE of a GAME of n (1 to 4). BAD.", PlansTest::game);
+        due.says("VALUE: that, if both play as well as they can.", PlansTest::hostile);
+        due.says("n WATCHES (fewer, if it is OVER), ahead of each an ACT", PlansTest::over);
         refusals();
         due.end();
     }

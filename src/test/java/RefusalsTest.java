@@ -21,7 +21,7 @@ public final class RefusalsTest {
         due.says("FULL (-2)", RefusalsTest::full);
         due.says("NONE (-3)", RefusalsTest::none);
         due.says("STATE (-4)", RefusalsTest::state);
-        due.says("-11 nothing where something is asked", RefusalsTest::nothing);
+        due.says("and what the host refuses: -11 nothing where something is asked", RefusalsTest::nothing);
         due.says("-12 a place outside", RefusalsTest::outside);
         due.says("-13 a thing of another sort or kind", RefusalsTest::otherSort);
         due.says("-14 a size below 0", RefusalsTest::belowZero);

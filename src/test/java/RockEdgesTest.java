@@ -8,7 +8,7 @@ public final class RockEdgesTest {
         due.says("An object is used for at most 512 calls after it has been made", RockEdgesTest::lastCall);
         due.says("No SHIPS, RULES, REPORTS; nothing is kept.", RockEdgesTest::empty);
         due.says("Sets are told by bits.", RockEdgesTest::sets);
-        due.says("END is 1 to 16 (12 at first)", RockEdgesTest::end);
+        due.says("THE ROCK: WATCHES are 0, 1, ..; END is 1 to 16 (12 at first)", RockEdgesTest::end);
         due.says("WATCH: the one that comes (0 at first)", RockEdgesTest::watchThatComes);
         due.says("from END on it is OVER", RockEdgesTest::over);
         due.says("WATCHES 0 to 15 each have a LIGHT: 4 times FLASH (0 to 3), and DARK (0 to 3)", RockEdgesTest::flashAndDark);
@@ -16,7 +16,7 @@ public final class RockEdgesTest {
         due.says("LANES 0 to 5 each have a CURRENT, a BUOY (0 to 9; 0 at first)", RockEdgesTest::lanes);
         due.says("SCORE: what WATCHES were WORTH (0 at first)", RockEdgesTest::score);
         due.says("SHIPS, 6 at most, numbered as they come", RockEdgesTest::sixShips);
-        due.says("how far OFF (0 to 99), TRIM (0 to 9), a LANE", RockEdgesTest::numbersOfAShip);
+        due.says("a KIND, how far OFF (0 to 99), TRIM (0 to 9), a LANE", RockEdgesTest::numbersOfAShip);
         due.says("HOME or not (at first)", RockEdgesTest::notHomeAtFirst);
         due.says("ON THE ROCK: one that isn't HOME, 0 OFF", RockEdgesTest::onTheRock);
         kinds();
@@ -26,13 +26,14 @@ public final class RockEdgesTest {
     }
 
     private static void kinds() {
-        due.says("ship: 2 and FLASH. tender: FLASH times DARK. coaster: twice FLASH. collier: as coaster, and DARK."
-            + " brig: 3 and DARK.", RockEdgesTest::nearsByLight);
+        due.says("NEARS (by FLASH, DARK, WATCH): ship: 2 and FLASH. tender: FLASH times DARK. coaster: twice FLASH."
+            + " collier: as coaster, and DARK. brig: 3 and DARK.", RockEdgesTest::nearsByLight);
         due.says("captain: as brig, but 0 in WATCHES 0, 3, ..", RockEdgesTest::captainNears);
         due.says("To that the CURRENT of her LANE is added, and 1 taken for each other of her LANE that isn't HOME",
             RockEdgesTest::nearsByLane);
         due.says("(0 at least). REACHES", RockEdgesTest::nearsNoLessThanNothing);
-        due.says("ship: 10, and 2 for each of TRIM. tender: 20. coaster: as ship, and 5.", RockEdgesTest::reachesByTrim);
+        due.says("REACHES (by TRIM, FLASH): ship: 10, and 2 for each of TRIM. tender: 20. coaster: as ship, and 5.",
+            RockEdgesTest::reachesByTrim);
         due.says("collier: as coaster, less 3 for each of FLASH (0 at least)", RockEdgesTest::collierReaches);
         due.says("brig: as ship, and 3 for each of FLASH", RockEdgesTest::brigReaches);
         due.says("captain: half of a brig's", RockEdgesTest::captainReaches);

@@ -4,18 +4,23 @@ public final class RockTest {
     private static final Due due = new Due("RockTest");
 
     public static void main(String[] args) {
-        aNewObject();
-        ship();
-        shipOf();
+        due.says("No SHIPS, RULES, REPORTS; nothing is kept.", RockTest::aNewObject);
+        due.says("A SHIP of a KIND 1 to 5: its number. BAD; FULL.", RockTest::ship);
+        due.says("Of a SHIP: what = 0 KIND, 1 how far OFF, 2 TRIM, 3 LANE, 4 1 if she is HOME, else 0, 5 what she NEARS"
+            + " now (HOME or not), 6 what she REACHES now, 7 what she PAYS now, 8 1 if she MAY enter now, else 0, 9"
+            + " WILL as all is now (0 enter, 1 stand, 2 hail). BAD.", RockTest::shipOf);
         lanesCount();
         captainByWatch();
-        change();
-        remake();
-        lights();
-        lanes();
-        ends();
-        anew();
-        state();
+        due.says("How far OFF (what 1), TRIM (2), LANE (3), HOME (4: 0, 1) of a SHIP becomes v: what it was. BAD.",
+            RockTest::change);
+        due.says("A SHIP becomes one of another KIND (1 to 5): the KIND that it was. BAD.", RockTest::remake);
+        due.says("The LIGHT of a WATCH (0 to 15) becomes v (0 to 15): what it was. BAD.", RockTest::lights);
+        due.says("The CURRENT of a LANE (what 0), its BUOY (1) becomes v: what it was. BAD.", RockTest::lanes);
+        due.says("Of a LANE: what = 0 CURRENT, 1 BUOY. BAD.", RockTest::laneOf);
+        due.says("END becomes v: what it was. BAD; STATE: v is below WATCH.", RockTest::ends);
+        due.says("WATCH is 0 again, SCORE 0, none is HOME (OFF as she is): what WATCH was.", RockTest::anew);
+        due.says("What = 0 WATCH, 1 END, 2 SCORE, 3 1 if it is OVER, else 0, 4 SHIPS that are HOME, as a set, 5 the"
+            + " LIGHT of WATCH, 6 how many are ON THE ROCK. BAD.", RockTest::state);
         due.end();
     }
 
@@ -186,16 +191,24 @@ public final class RockTest {
             due.is("7 lane", x.lane(f, 0, 9 - f), 0);
             due.is("7 lane", x.lane(f, 1, f + 1), 0);
         }
-        for (int f = 0; f < 6; f++) {
-            due.is("8 laneOf", x.laneOf(f, 0), 9 - f);
-            due.is("8 laneOf", x.laneOf(f, 1), f + 1);
-        }
         due.is("7 lane", x.lane(2, 0, 0), 7);
         int[][] wrong = {{-1, 0, 0}, {6, 0, 0}, {0, -1, 0}, {0, 2, 0}, {0, 0, -1}, {0, 0, 10}, {0, 1, 10}};
         for (int[] w : wrong) {
             due.is("7 lane", x.lane(w[0], w[1], w[2]), BAD);
         }
-        due.is("8 laneOf", x.laneOf(0, 0), 9);
+        due.is("8 a refusal leaves it", x.laneOf(0, 0), 9);
+    }
+
+    private static void laneOf() {
+        LightHalves x = new LightHalves();
+        for (int f = 0; f < 6; f++) {
+            x.lane(f, 0, 9 - f);
+            x.lane(f, 1, f + 1);
+        }
+        for (int f = 0; f < 6; f++) {
+            due.is("8 CURRENT", x.laneOf(f, 0), 9 - f);
+            due.is("8 BUOY", x.laneOf(f, 1), f + 1);
+        }
         due.is("8 laneOf", x.laneOf(-1, 0), BAD);
         due.is("8 laneOf", x.laneOf(6, 0), BAD);
         due.is("8 laneOf", x.laneOf(0, -1), BAD);

@@ -3,9 +3,12 @@ public final class RowsTest {
     private static final Due due = new Due("RowsTest");
 
     public static void main(String[] args) {
-        prove();
-        alter();
-        judge();
+        due.says("Of ROW k: what = 0 ACT, 1 WORTH, 2 those HOME. -9: there is none such, another what.",
+            RowsTest::prove);
+        due.says("It becomes v: what it was. -9 likewise.", RowsTest::alter);
+        due.says("THE READER takes ROWS as such: 0 all is right; else the first ROW that isn't, and 1 more.",
+            RowsTest::judge);
+        due.says("THE READER takes ROWS as a PLAN, from how it is now", RowsTest::judgeLater);
         due.end();
     }
 
@@ -65,6 +68,9 @@ public final class RowsTest {
         judgeAltered(1, 2, 2, 2);
         judgeAltered(2, 1, 3, 3);
         judgeAltered(2, 0, 2, 0);
+    }
+
+    private static void judgeLater() {
         LightHalves x = Due.twoBrigs();
         x.prove(2);
         x.ends(1);

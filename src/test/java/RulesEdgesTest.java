@@ -6,7 +6,7 @@ public final class RulesEdgesTest {
     private static final Due due = new Due("RulesEdgesTest");
 
     public static void main(String[] args) {
-        due.says("THE TAPE takes bytes, 200 at most", RulesEdgesTest::twoHundredBytes);
+        due.says("THE RULES are a TEXT. THE TAPE takes bytes, 200 at most", RulesEdgesTest::twoHundredBytes);
         due.says("rules() uses it up", RulesEdgesTest::usedUp);
         due.says("such a call changes nothing (but that THE TAPE is used up by rules())", RulesEdgesTest::noneOfTheLast);
         due.says("THE TAPE is used up", RulesEdgesTest::nothingStaysOpen);

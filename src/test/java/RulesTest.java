@@ -3,12 +3,14 @@ public final class RulesTest {
     private static final Due due = new Due("RulesTest");
 
     public static void main(String[] args) {
-        feed();
-        faults();
-        conditions();
-        facts();
-        kinds();
-        replaced();
+        due.says("n bytes (1 to 8) come to THE TAPE, the lowest of eight first: how many it has. BAD; FULL: more than"
+            + " 200.", RulesTest::feed);
+        due.says("TEXT: { KIND DO ; | KIND if COND DO ; }, 8 RULES at most.", RulesTest::faults);
+        due.says("ONE: { not } ( VALUE SIGN VALUE | \"(\" COND \")\" )", RulesTest::conditions);
+        due.says("VALUE: N | watch | off | trim | flash | number", RulesTest::facts);
+        due.says("KINDS: 0 ship; 1 tender, 2 coaster, 4 brig (under ship); 3 collier (under coaster); 5 captain (under"
+            + " brig).", RulesTest::kinds);
+        due.says("THE TAPE tells THE RULES (in place of all): how many; -100 less its FAULT.", RulesTest::replaced);
         due.end();
     }
 

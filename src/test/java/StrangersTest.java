@@ -4,13 +4,18 @@ public final class StrangersTest {
     private static final Due due = new Due("StrangersTest");
 
     public static void main(String[] args) {
-        report();
-        lone();
+        due.says("A REPORT: its number. BAD: also MOST below LEAST; FULL.", StrangersTest::report);
+        due.says("LONE SHIPS that FIT: what = 0 how many; of that with the least KIND, of these the least TRIM, of"
+            + " these the least OFF: 1 KIND, 2 TRIM, 3 how far OFF at first. BAD; NONE (of 1, 2, 3): there are none.",
+            StrangersTest::lone);
         lonePays();
         loneFarOn();
-        liar();
-        lot();
-        times();
+        due.says("LIAR. NONE: some FIT; or there is no such REPORT.", StrangersTest::liar);
+        due.says("LOT: A WATCHE by chance: z (an int; 1 at first) becomes z * 1103515245 + 12345; the ACT in it is what"
+            + " z >>> 16 leaves by how many SHIPS there are and 1.", StrangersTest::lot);
+        due.says("How many of n (1 to 40) times all WATCHES yet by LOT, each from how it is now (z goes on from one to"
+            + " the next), are WORTH v (0 to 999) or more (all is as it was in the end, z, too). BAD.",
+            StrangersTest::times);
         due.end();
     }
 

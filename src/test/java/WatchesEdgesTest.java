@@ -15,7 +15,8 @@ public final class WatchesEdgesTest {
     }
 
     private static void aWatch() {
-        due.says("(1) If a SHIP is told, and is not HOME, she does as her WILL is", WatchesEdgesTest::toldThoughHome);
+        due.says("A WATCH goes by: (1) If a SHIP is told, and is not HOME, she does as her WILL is",
+            WatchesEdgesTest::toldThoughHome);
         due.says("enter: WORTH what she PAYS; if that is more than 0, she is HOME.", WatchesEdgesTest::entersIfShePays);
         due.says("hail: she is 12 more OFF (99 at most; ON THE ROCK, too)", WatchesEdgesTest::hailedOff);
         due.says("WORTH 1, if DARK is above 1", WatchesEdgesTest::hailedInTheDark);

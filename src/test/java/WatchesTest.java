@@ -4,17 +4,19 @@ public final class WatchesTest {
     private static final Due due = new Due("WatchesTest");
 
     public static void main(String[] args) {
-        watch();
+        due.says("A WATCH goes by as in THE REST: what it was WORTH. STATE: it is OVER.", WatchesTest::watch);
         worthOfHome();
         hail();
-        on();
-        when();
-        trimFor();
-        laneFor();
-        rock();
-        least();
-        safe();
-        convoys();
+        due.says("What n (0 to 16) WATCHES of THE REST (fewer, if it is OVER) are WORTH. BAD.", WatchesTest::on);
+        due.says("The first WATCH of THE REST behind which a SHIP is HOME. BAD; NONE (also if she is now).",
+            WatchesTest::when);
+        due.says("TRIM with which a SHIP makes THE REST WORTH most; of several the least. BAD.", WatchesTest::trimFor);
+        due.says("LANE likewise. BAD.", WatchesTest::laneFor);
+        due.says("ROCK (WATCH itself, if she is ON THE ROCK now). BAD; NONE.", WatchesTest::rock);
+        due.says("LEAST of a SHIP. BAD; NONE: with none.", WatchesTest::least);
+        due.says("SAFE by n (0 to 16), as a set. BAD.", WatchesTest::safe);
+        due.says("CONVOYS: what -1 how many, 0 .. 5 SHIPS of that SHIP's CONVOY, as a set (0: she is HOME). BAD: also"
+            + " no such SHIP.", WatchesTest::convoys);
         due.end();
     }
 

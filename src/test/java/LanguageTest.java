@@ -1,13 +1,18 @@
 import com.sun.source.tree.AssertTree;
+import com.sun.source.tree.BinaryTree;
+import com.sun.source.tree.BlockTree;
 import com.sun.source.tree.ClassTree;
 import com.sun.source.tree.CompilationUnitTree;
 import com.sun.source.tree.LambdaExpressionTree;
 import com.sun.source.tree.MemberReferenceTree;
 import com.sun.source.tree.MethodInvocationTree;
 import com.sun.source.tree.MethodTree;
+import com.sun.source.tree.NewClassTree;
 import com.sun.source.tree.SynchronizedTree;
 import com.sun.source.tree.ThrowTree;
+import com.sun.source.tree.Tree;
 import com.sun.source.tree.TryTree;
+import com.sun.source.tree.VariableTree;
 import com.sun.source.util.JavacTask;
 import com.sun.source.util.TreePathScanner;
 import com.sun.source.util.Trees;
@@ -16,6 +21,8 @@ import java.lang.management.ManagementFactory;
 import java.lang.reflect.Field;
 import java.lang.reflect.Method;
 import java.lang.reflect.Modifier;
+import java.nio.file.Files;
+import java.nio.file.Path;
 import java.util.HashMap;
 import java.util.HashSet;
 import java.util.List;
@@ -42,6 +49,12 @@ public final class LanguageTest {
         "System", Set.of("arraycopy"),
         "Arrays", Set.of("fill", "copyOf", "copyOfRange"),
         "Object", Set.of("<init>", "clone"));
+    private static final Set<String> TYPES = Set.of("int", "long", "short", "byte", "char", "boolean", "double", "float",
+        "String", "StringBuilder");
+    /** Divisors that are numbers told by the calls, and are looked at where they stand. */
+    private static final Set<String> DIVISORS = Set.of("Rock.passByLot: (count + 1)", "Thing.shipSounds: by");
+    /** What calls itself; each carries how deep it is and ends at the length of a PLAN. */
+    private static final Set<String> RECURSIONS = Set.of("Planner.explore", "Planner.duel");
     /** What LANGUAGE.md says all calls of one run have room for, in bytes. */
     private static final long ROOM = 7_300_000L * 8;
     private static final Due due = new Due("LanguageTest");
@@ -53,6 +66,8 @@ public final class LanguageTest {
         classes();
         source();
         depth();
+        recursions();
+        signs();
         room();
         due.end();
     }
@@ -163,7 +178,33 @@ public final class LanguageTest {
 
         @Override public Void visitClass(ClassTree tree, Void v) {
             due.is("rule 2: a class without a name", tree.getSimpleName().length() > 0 ? 1 : 0, 1);
+            for (Tree member : tree.getMembers()) {
+                due.is("rule 5: a block in " + tree.getSimpleName(), member instanceof BlockTree ? 1 : 0, 0);
+            }
             return super.visitClass(tree, v);
+        }
+
+        @Override public Void visitVariable(VariableTree tree, Void v) {
+            String type = String.valueOf(tree.getType()).replaceFirst("(\\[\\])?(\\[\\])?$", "");
+            boolean own = false;
+            for (Class<?> inside : LightHalves.class.getDeclaredClasses()) {
+                own |= inside.getSimpleName().equals(type);
+            }
+            due.is("rule 3: a " + tree.getType() + " in " + method, own || TYPES.contains(type) ? 1 : 0, 1);
+            return super.visitVariable(tree, v);
+        }
+
+        @Override public Void visitNewClass(NewClassTree tree, Void v) {
+            due.is("rule 12: an object made in " + method, method.isEmpty() || method.endsWith("<init>") ? 1 : 0, 1);
+            return super.visitNewClass(tree, v);
+        }
+
+        @Override public Void visitBinary(BinaryTree tree, Void v) {
+            boolean parts = tree.getKind() == Tree.Kind.DIVIDE || tree.getKind() == Tree.Kind.REMAINDER;
+            String divisor = tree.getRightOperand().toString();
+            boolean looked = divisor.matches("[1-9]\\d*") || DIVISORS.contains(method + ": " + divisor);
+            due.is("rule 7: parted by " + divisor + " in " + method, !parts || looked ? 1 : 0, 1);
+            return super.visitBinary(tree, v);
         }
 
         @Override public Void visitThrow(ThrowTree tree, Void v) {
@@ -215,6 +256,30 @@ public final class LanguageTest {
         }
         open.remove(method);
         return deepest + 1;
+    }
+
+    private static void recursions() {
+        for (String method : calls.keySet()) {
+            boolean again = reaches(method, method, new HashSet<>());
+            due.is("rule 8: " + method + " calls itself", again ? 1 : 0, RECURSIONS.contains(method) ? 1 : 0);
+        }
+    }
+
+    private static boolean reaches(String from, String method, Set<String> seen) {
+        for (String next : calls.get(from)) {
+            if (next.equals(method) || seen.add(next) && reaches(next, method, seen)) {
+                return true;
+            }
+        }
+        return false;
+    }
+
+    private static void signs() throws Exception {
+        for (byte b : Files.readAllBytes(Path.of(SOURCE))) {
+            if (b < 1) {
+                due.isWrong("rule 4: a sign that isn't 1 to 127");
+            }
+        }
     }
 
     /** The dearest calls, as many as an object is used for. */
